@@ -117,7 +117,7 @@ public final class MemoRuntime {
         requireCell(f, key);
         int number = f * KEYS + key;
         Outcome outcome = Outcome.CIRCLE;
-        // Each circle makes one more cell good in this revision: there are no more than CELLS of them.
+        // Each circle makes one more cell good in this revision: CELLS of them are the most.
         for (int i = 0; i <= CELLS && outcome == Outcome.CIRCLE; i++) {
             depth = 0;
             outcome = ask(number);

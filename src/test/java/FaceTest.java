@@ -32,7 +32,8 @@ public final class FaceTest {
 
     public static void main(String[] args) {
         Check check = new Check();
-        check.same("the face", String.join("\n  ", shownFace()), String.join("\n  ", new TreeSet<>(Set.of(DUE))));
+        Set<String> due = new TreeSet<>(Set.of(DUE));
+        check.same("the face", String.join("\n  ", shownFace()), String.join("\n  ", due));
         check.same("NONE", MemoRuntime.NONE, -1);
         check.end();
     }

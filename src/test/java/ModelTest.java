@@ -4,7 +4,7 @@ import java.util.function.IntSupplier;
 
 /** Random runs of calls, the same in every test run: program and plain model must agree on every answer. */
 public final class ModelTest {
-    private static final int RUNS = 3000;
+    private static final int RUNS = 600;
     private static final int CALLS = 512;
 
     private final Random random;
@@ -190,8 +190,9 @@ public final class ModelTest {
     }
 
     private void compareLook(int f, int key, int i) {
-        same("cell(" + f + ", " + key + ", " + i + ")", () -> program.cell(f, key, i), () -> model.cell(f, key, i));
-        same("read(" + f + ", " + key + ", " + i + ")", () -> program.read(f, key, i), () -> model.read(f, key, i));
+        String arguments = "(" + f + ", " + key + ", " + i + ")";
+        same("cell" + arguments, () -> program.cell(f, key, i), () -> model.cell(f, key, i));
+        same("read" + arguments, () -> program.read(f, key, i), () -> model.read(f, key, i));
     }
 
     private void same(String call, IntSupplier ofProgram, IntSupplier ofModel) {

@@ -1,5 +1,4 @@
 import java.util.ArrayList;
-import java.util.Arrays;
 import java.util.LinkedHashMap;
 import java.util.LinkedHashSet;
 import java.util.List;
@@ -142,7 +141,8 @@ final class PlainModel {
         int number = number(f, key);
         demandRange(what, 0, 5);
         Kept cell = keptCell(number);
-        int[] facts = {cell.value, cell.good, cell.changed, cell.ofClass, cell.circle ? 1 : 0, cell.reads.size()};
+        int[] facts = {cell.value, cell.good, cell.changed, cell.ofClass, cell.circle ? 1 : 0,
+            cell.reads.size()};
         return facts[what];
     }
 
@@ -288,8 +288,9 @@ final class PlainModel {
     }
 
     private int leastClass(List<Integer> reads) {
-        int[] all = reads.stream().mapToInt(r -> r >= 100 ? cells.get(r - 100).ofClass : classes[r / 16]).toArray();
-        return Arrays.stream(all).min().orElse(2);
+        return reads.stream()
+                .mapToInt(r -> r >= 100 ? cells.get(r - 100).ofClass : classes[r / 16])
+                .min().orElse(2);
     }
 
     private Kept runCell(int number, Kept before) {

@@ -89,7 +89,8 @@ public final class TextPromisesTest {
         CHECK.same("the text of function 4", m.demand(4, 15), 0);
         CHECK.same("24 characters too few", Helper.define(m, 0, "????????" + "1".repeat(16)), 24);
         CHECK.same("one character too many", Helper.define(m, 0, "g??????" + "k".repeat(13) + "0"), 20);
-        CHECK.same("a text of 24 characters", Helper.define(m, 0, "+???????" + "1".repeat(16)), MemoRuntime.NONE);
+        CHECK.same("a text of 24 characters", Helper.define(m, 0, "+???????" + "1".repeat(16)),
+                MemoRuntime.NONE);
         CHECK.same("its worth", m.demand(0, 0), 2);
     }
 
