@@ -1,14 +1,14 @@
-import java.util.NoSuchElementException;
 import java.util.Random;
 import java.util.function.IntSupplier;
 
 /** Random runs of calls, the same in every test run: program and plain model must agree on every answer. */
 public final class ModelTest {
-    private static final int RUNS = 600;
-    private static final int CALLS = 512;
+    private static final int RUNS = 3000;
+    /** The calls that one step of a run may need: wipe, three writes, define. */
+    private static final int DEAREST_STEP = 5;
 
     private final Random random;
-    private final MemoRuntime program = new MemoRuntime();
+    private final Memo program = new Memo();
     private final PlainModel model = new PlainModel();
     private final StringBuilder told = new StringBuilder();
     /** Few keys make circles and hits, many make depth. */
@@ -23,6 +23,7 @@ public final class ModelTest {
     }
 
     public static void main(String[] args) {
+        Check check = new Check();
         for (int seed = 0; seed < RUNS; seed++) {
             ModelTest run = new ModelTest(seed);
             if (!run.agreesThroughout()) {
@@ -30,9 +31,12 @@ public final class ModelTest {
                 System.exit(1);
             }
         }
+        check.end();
     }
 
+    /** Edits and demands with a look in between, then the whole state, as far as 512 calls allow. */
     private boolean agreesThroughout() {
+        int leftForTheEnd = DEAREST_STEP + 1 + random.nextInt(400);
         if (random.nextInt(4) != 0) {
             for (int table = 0; table < 3; table++) {
                 level(table, random.nextInt(3));
@@ -41,14 +45,15 @@ public final class ModelTest {
         for (int f = 0; f < 6; f++) {
             defineText(f, text(f));
         }
-        for (int i = 0; i < CALLS && agrees; i++) {
-            nextCall();
-            compareState();
+        while (agrees && program.callsLeft() > leftForTheEnd) {
+            step();
+            look();
         }
+        compareState();
         return agrees;
     }
 
-    private void nextCall() {
+    private void step() {
         int kind = random.nextInt(100);
         if (kind < 50) {
             int f = function();
@@ -80,6 +85,17 @@ public final class ModelTest {
             defineText(f, text(Math.floorMod(f, 6)));
         } else {
             scribble();
+        }
+    }
+
+    private void look() {
+        switch (random.nextInt(6)) {
+            case 0 -> compareCount(random.nextInt(8) - 1);
+            case 1 -> compareRecent(random.nextInt(model.count(5) + 2) - 1);
+            case 2 -> compareKept(function(), key());
+            case 3 -> compareCell(function(), key(), random.nextInt(8) - 1);
+            case 4 -> compareRead(function(), key(), random.nextInt(8) - 1);
+            default -> { }
         }
     }
 
@@ -161,60 +177,58 @@ public final class ModelTest {
         return "?" + expression(room / 3) + expression(room / 3) + expression(room / 3);
     }
 
+    /** From the end of the recent order on: what was done last shows there. */
     private void compareState() {
-        for (int what = -1; what <= 6; what++) {
-            int asked = what;
-            same("count(" + what + ")", () -> program.count(asked), () -> model.count(asked));
+        for (int what = 0; what <= 5; what++) {
+            compareCount(what);
         }
-        for (int i = -1; i <= model.count(5); i++) {
-            int asked = i;
-            same("recent(" + i + ")", () -> program.recent(asked), () -> model.recent(asked));
+        for (int i = model.count(5); i >= 0; i--) {
+            compareRecent(i);
         }
-        for (int number = 0; number < 96; number++) {
-            compareCell(number / 16, number % 16);
+        for (int i = model.count(5) - 1; i >= 0; i--) {
+            int f = model.recent(i) / 16;
+            int key = model.recent(i) % 16;
+            for (int what = 0; what <= 5; what++) {
+                compareCell(f, key, what);
+            }
+            for (int j = 0; agrees && j <= model.cell(f, key, 5); j++) {
+                compareRead(f, key, j);
+            }
         }
-        compareLook(oddly(0), oddly(0), random.nextInt(8) - 1);
     }
 
-    private void compareCell(int f, int key) {
+    private void compareCount(int what) {
+        same("count(" + what + ")", () -> program.count(what), () -> model.count(what));
+    }
+
+    private void compareRecent(int i) {
+        same("recent(" + i + ")", () -> program.recent(i), () -> model.recent(i));
+    }
+
+    private void compareKept(int f, int key) {
         same("kept(" + f + ", " + key + ")",
                 () -> program.kept(f, key) ? 1 : 0, () -> model.kept(f, key) ? 1 : 0);
-        if (agrees && model.kept(f, key)) {
-            for (int what = 0; what <= 5; what++) {
-                compareLook(f, key, what);
-            }
-            for (int i = 6; i <= model.cell(f, key, 5); i++) {
-                compareLook(f, key, i);
-            }
-        }
     }
 
-    private void compareLook(int f, int key, int i) {
-        String arguments = "(" + f + ", " + key + ", " + i + ")";
-        same("cell" + arguments, () -> program.cell(f, key, i), () -> model.cell(f, key, i));
-        same("read" + arguments, () -> program.read(f, key, i), () -> model.read(f, key, i));
+    private void compareCell(int f, int key, int what) {
+        same("cell(" + f + ", " + key + ", " + what + ")",
+                () -> program.cell(f, key, what), () -> model.cell(f, key, what));
     }
 
+    private void compareRead(int f, int key, int i) {
+        same("read(" + f + ", " + key + ", " + i + ")",
+                () -> program.read(f, key, i), () -> model.read(f, key, i));
+    }
+
+    /** Makes the call of both, unless they have differed already or the object has had its calls. */
     private void same(String call, IntSupplier ofProgram, IntSupplier ofModel) {
-        if (!agrees) {
+        if (!agrees || program.callsLeft() == 0) {
             return;
         }
-        String got = answer(ofProgram);
-        String due = answer(ofModel);
-        boolean changes = !call.startsWith("count") && !call.startsWith("recent") && !call.startsWith("kept")
-                && !call.startsWith("cell") && !call.startsWith("read");
+        String got = Helper.answer(ofProgram);
+        String due = Helper.answer(ofModel);
         agrees = got.equals(due);
-        if (changes || !agrees) {
-            told.append("  ").append(call).append(" answered ").append(got);
-            told.append(agrees ? "" : ", due is " + due).append('\n');
-        }
-    }
-
-    private static String answer(IntSupplier call) {
-        try {
-            return String.valueOf(call.getAsInt());
-        } catch (IllegalArgumentException | IllegalStateException | NoSuchElementException e) {
-            return "throws." + e.getClass().getSimpleName();
-        }
+        told.append("  ").append(call).append(" answered ").append(got);
+        told.append(agrees ? "" : ", due is " + due).append('\n');
     }
 }
