@@ -585,7 +585,7 @@ public final class MemoRuntime {
         final int[] reads = new int[TEXT_LIMIT];
         int readCount = 0;
 
-        private Text text = null;
+        private Text text = new Text();
         private int key = 0;
         private int at = 0;
         /** The operators that lack an operand, the innermost last. */
@@ -604,7 +604,8 @@ public final class MemoRuntime {
         }
 
         void goOn() {
-            while (wanted == NONE && at < text.length) {
+            // Each round is for another character of the text.
+            for (int i = 0; i < TEXT_LIMIT && wanted == NONE && at < text.length; i++) {
                 char c = text.characters[at];
                 at++;
                 if (Text.operandsOf(c) > 0) {

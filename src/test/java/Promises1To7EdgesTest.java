@@ -250,8 +250,11 @@ public final class Promises1To7EdgesTest {
             CHECK.same("the same value", m.input(number / 16, number % 16, MIN), false);
             CHECK.same("0 again", m.input(number / 16, number % 16, 0), true);
         }
-        CHECK.changesNothing("an input that is no edit",
-                twin -> CHECK.same("the value that it had", twin.input(2, 15, -3), false));
+        CHECK.changesNothing("inputs that are no edits", twin -> {
+            CHECK.same("the value that it had", twin.input(0, 15, -1), false);
+            CHECK.same("the value that it had", twin.input(1, 15, -2), false);
+            CHECK.same("the value that it had", twin.input(2, 2, 5), false);
+        });
     }
 
     private static void promise5WrongTable() {

@@ -34,11 +34,20 @@ final class Twins {
     /** Nothing else can be asked of the object afterwards: to look at hidden parts changes it. */
     static String everything(Memo m) {
         StringBuilder shown = new StringBuilder(Helper.state(m));
+        showWhatIsRenewed(m, shown.append("; renewed"));
         showTexts(m, shown.append("; texts"));
         showDraft(m, shown.append("; draft"));
         showCircleValues(m, shown.append("; circle values"));
         showInputs(m, shown.append("; inputs"));
         return shown.append("; at most ").append(m.count(5)).toString();
+    }
+
+    /** When inputs changed and which classes were edited shows in what is run, verified and skipped. */
+    private static void showWhatIsRenewed(Memo m, StringBuilder shown) {
+        shown.append(' ').append(m.demand(0, 3)).append(' ').append(Helper.counts(m));
+        m.input(1, 9, 1);
+        shown.append(", ").append(m.demand(0, 15)).append(' ').append(m.demand(4, 2));
+        shown.append(' ').append(Helper.counts(m));
     }
 
     private static void showTexts(Memo m, StringBuilder shown) {
